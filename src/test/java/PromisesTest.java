@@ -32,30 +32,13 @@ public final class PromisesTest {
     /** Rows are written as texts: "1 2 3, 4 5 6". */
     private static BlindTables with(int t, String rows) {
         BlindTables x = new BlindTables();
-        fill(x, t, rows);
+        Texts.fill(x, t, rows);
         return x;
-    }
-
-    private static void fill(BlindTables x, int t, String rows) {
-        for (String row : rows.split(", ")) {
-            String[] c = row.split(" ");
-            boolean added = x.add(t, Integer.parseInt(c[0]), Integer.parseInt(c[1]), Integer.parseInt(c[2]));
-            Check.due("add of " + row, added, true);
-        }
-    }
-
-    private static String result(BlindTables x, int rows) {
-        StringBuilder text = new StringBuilder();
-        for (int r = 0; r < rows; r++) {
-            text.append(r == 0 ? "" : ", ").append(x.cell(r, 0));
-            text.append(' ').append(x.cell(r, 1)).append(' ').append(x.cell(r, 2));
-        }
-        return text.toString();
     }
 
     private static void runs(String what, BlindTables x, int number, String rows) {
         Check.due(what + ": run()", x.run(), number);
-        Check.due(what + ": result", result(x, number), rows);
+        Check.due(what + ": result", Texts.result(x, number), rows);
         for (int c = 0; c < 3; c++) {
             Check.due(what + ": cell behind the result", x.cell(Math.max(number, 0), c), 0);
         }
@@ -64,15 +47,6 @@ public final class PromisesTest {
     private static void table(String what, BlindTables x, int t, String rows) {
         x.plan(t);
         runs(what, x, x.rows(t), rows);
-    }
-
-    private static String trace(BlindTables x) {
-        StringBuilder text = new StringBuilder();
-        for (int k = 0; k < x.length(); k++) {
-            int code = x.access(k);
-            text.append(k == 0 ? "" : " ").append(code % 2 == 0 ? 'R' : 'W').append(code / 2);
-        }
-        return text.toString();
     }
 
     private static void promise1NewObject() {
@@ -118,7 +92,7 @@ public final class PromisesTest {
 
     private static void promise4Plan() {
         BlindTables x = with(0, "1 1 1, 2 2 2");
-        fill(x, 1, "7 7 7");
+        Texts.fill(x, 1, "7 7 7");
         for (int t : NO_NUMBER) {
             Check.due("plan on no table", x.plan(t), false);
         }
@@ -196,7 +170,7 @@ public final class PromisesTest {
         x.plan(0);
         x.filter(0, 2, 2);
         runs("filter of three rows", x, 1, "3 0 0");
-        Check.due("trace of a filter of three rows", trace(x),
+        Check.due("trace of a filter of three rows", Texts.trace(x),
             "R0 W0 R1 W1 R2 W2 R0 R1 W0 W1 R1 R2 W1 W2 R0 R2 W0 W2");
     }
 
@@ -211,7 +185,7 @@ public final class PromisesTest {
             runs("pick", x, 2, (a + 1) + " " + (b + 1) + " " + (c + 1)
                 + ", " + (a + 4) + " " + (b + 4) + " " + (c + 4));
         }
-        Check.due("trace of a pick of two rows", trace(x), "R0 W0 R1 W1 R0 R1 W0 W1");
+        Check.due("trace of a pick of two rows", Texts.trace(x), "R0 W0 R1 W1 R0 R1 W0 W1");
         BlindTables y = with(0, "1 9 3, 2 8 6, 3 8 6");
         y.plan(0);
         y.pick(1, 2, 2);
@@ -227,7 +201,7 @@ public final class PromisesTest {
         y.plan(0);
         y.distinct();
         runs("distinct of two equal rows", y, 1, "0 0 0");
-        Check.due("trace of it", trace(y), "R0 R1 W0 W1 R0 W0 R1 W1 R0 R1 W0 W1");
+        Check.due("trace of it", Texts.trace(y), "R0 R1 W0 W1 R0 W0 R1 W1 R0 R1 W0 W1");
         y.plan(1);
         y.distinct();
         runs("distinct of no rows", y, 0, "");
@@ -251,17 +225,17 @@ public final class PromisesTest {
         y.plan(0);
         y.group(0, 2);
         runs("group of two rows", y, 1, "3 12 2");
-        Check.due("trace of it", trace(y), "R0 R1 W0 W1 R0 W0 R1 W1 R1 W1 R0 W0 R0 R1 W0 W1");
+        Check.due("trace of it", Texts.trace(y), "R0 R1 W0 W1 R0 W0 R1 W1 R1 W1 R0 W0 R0 R1 W0 W1");
     }
 
     private static void promise9Join() {
         BlindTables x = with(0, "1 10 100, 2 20 200, 1 11 101");
-        fill(x, 1, "1 5 7, 1 6 8, 3 1 1, 2 4 4");
+        Texts.fill(x, 1, "1 5 7, 1 6 8, 3 1 1, 2 4 4");
         x.plan(0);
         Check.due("join", x.join(1, 0, 0), true);
         runs("join", x, 5, "1 15 107, 1 16 108, 1 16 108, 1 17 109, 2 24 204");
         BlindTables y = with(0, "9 4 2147483647, 8 5 1, 7 5 2");
-        fill(y, 2, "4 2147483646 5, 1 1 4, 0 0 6, 3 3 5");
+        Texts.fill(y, 2, "4 2147483646 5, 1 1 4, 0 0 6, 3 3 5");
         y.plan(0);
         y.join(2, 1, 2);
         runs("join of column 1 with column 2, wrapping", y, 5,
@@ -274,7 +248,7 @@ public final class PromisesTest {
         z.plan(0);
         z.join(0, 0, 0);
         runs("join of a table with itself", z, 4, "1 4 6, 1 6 8, 1 6 8, 1 8 10");
-        fill(z, 0, "2 0 0");
+        Texts.fill(z, 0, "2 0 0");
         runs("with its rows when the plan is run", z, 5, "1 4 6, 1 6 8, 1 6 8, 1 8 10, 2 0 0");
         z.plan(0);
         z.join(1, 0, 0);
@@ -290,22 +264,22 @@ public final class PromisesTest {
 
     private static void promise9JoinTrace() {
         BlindTables x = with(0, "1 2 3");
-        fill(x, 1, "5 6 1");
+        Texts.fill(x, 1, "5 6 1");
         x.plan(0);
         x.join(1, 0, 2);
         runs("join of one row with one", x, 1, "1 8 4");
-        Check.due("trace of it", trace(x), "R0 R1 W0 W1 R0 W0 R1 W1 R1 W1 R0 W0 R0 R1 W0 W1 R0 W40 R1 W41"
+        Check.due("trace of it", Texts.trace(x), "R0 R1 W0 W1 R0 W0 R1 W1 R1 W1 R0 W0 R0 R1 W0 W1 R0 W40 R1 W41"
             + " R0 W0 R1 W1 R0 R1 W0 W1 R0 R1 W0 W1 R0 W0"
             + " R40 W40 R41 W41 R40 R41 W40 W41 R40 R41 W40 W41 R40 W40 R0 R40 W0");
         x.plan(0);
         x.join(1, 0, 0);
         runs("join without a pair", x, 0, "");
-        Check.due("trace without a pair", trace(x), "R0 R1 W0 W1 R0 W0 R1 W1 R1 W1 R0 W0 R0 R1 W0 W1");
+        Check.due("trace without a pair", Texts.trace(x), "R0 R1 W0 W1 R0 W0 R1 W1 R1 W1 R0 W0 R0 R1 W0 W1");
     }
 
     private static void promise9JoinsRoom() {
         BlindTables x = with(0, "7 0 0, 7 1 0, 7 2 0, 7 3 0");
-        fill(x, 1, "7 0 0, 7 4 0, 7 8 0, 7 12 0, 7 16 0, 7 20 0");
+        Texts.fill(x, 1, "7 0 0, 7 4 0, 7 8 0, 7 12 0, 7 16 0, 7 20 0");
         x.plan(0);
         x.join(1, 0, 0);
         StringBuilder due = new StringBuilder("7 0 0");
@@ -313,18 +287,18 @@ public final class PromisesTest {
             due.append(", 7 ").append(b).append(" 0");
         }
         runs("24 pairs, more than there are rows", x, 24, due.toString());
-        fill(x, 0, "7 9 9");
+        Texts.fill(x, 0, "7 9 9");
         Check.due("30 pairs", x.run(), ROOM);
         DueTrace roomTrace = new DueTrace();
         roomTrace.join(5, 6, 30);
         Check.due("30 pairs: the first four parts", x.length(), roomTrace.length());
-        Check.due("30 pairs: no result", result(x, 1), "0 0 0");
+        Check.due("30 pairs: no result", Texts.result(x, 1), "0 0 0");
         x.filter(0, 0, 0);
         Check.due("no step is done behind ROOM", x.run(), ROOM);
         Check.due("nor leaves a trace", x.length(), roomTrace.length());
         x.drop(7);
         x.apply(1);
-        fill(x, 1, "7 0 0, 7 1 0, 7 2 0, 7 3 0, 7 4 0");
+        Texts.fill(x, 1, "7 0 0, 7 1 0, 7 2 0, 7 3 0, 7 4 0");
         x.plan(0);
         x.join(1, 0, 0);
         Check.due("25 pairs", x.run(), ROOM);
@@ -334,7 +308,7 @@ public final class PromisesTest {
         Check.due("20 pairs", x.run(), 20);
         x.join(1, 0, 0);
         Check.due("100 pairs in the third step", x.run(), ROOM);
-        Check.due("100 pairs: no result", result(x, 1), "0 0 0");
+        Check.due("100 pairs: no result", Texts.result(x, 1), "0 0 0");
     }
 
     private static void promise10Run() {
@@ -349,7 +323,7 @@ public final class PromisesTest {
         runs("a plan without steps", x, 5, "1 2 3, 1 2 3, 4 3 9, 4 4 3, 4 4 4");
         runs("the plan stays", x, 5, "1 2 3, 1 2 3, 4 3 9, 4 4 3, 4 4 4");
         Check.due("the table stays", x.rows(1), 5);
-        fill(x, 1, "0 0 0");
+        Texts.fill(x, 1, "0 0 0");
         runs("the table's rows as they are now", x, 6, "0 0 0, 1 2 3, 1 2 3, 4 3 9, 4 4 3, 4 4 4");
         x.filter(0, 2, 0);
         x.distinct();
@@ -421,12 +395,12 @@ public final class PromisesTest {
         DueTrace empty = new DueTrace();
         empty.batch(3, 0);
         Check.due("an empty batch's trace", x.length(), empty.length());
-        Check.due("the result stays", result(x, 3), "5 7 7, 5 8 8, 6 2 2");
+        Check.due("the result stays", Texts.result(x, 3), "5 7 7, 5 8 8, 6 2 2");
         table("the table too", x, 0, "5 7 7, 5 8 8, 6 2 2");
         BlindTables y = with(0, "1 0 0");
         y.drop(2);
         Check.due("one change on one row", y.apply(0), 1);
-        Check.due("its trace", trace(y), "R0 R1 W0 W1 R0 W0 R1 W1 R0 R1 W0 W1");
+        Check.due("its trace", Texts.trace(y), "R0 R1 W0 W1 R0 W0 R1 W1 R0 R1 W0 W1");
         promise13Room();
     }
 
@@ -474,7 +448,7 @@ public final class PromisesTest {
         x.apply(0);
         x.add(0, 0, 0, 0);
         x.plan(1);
-        Check.due("what comes behind a run leaves its result", result(x, 2), "1 2 3, 4 5 6");
+        Check.due("what comes behind a run leaves its result", Texts.result(x, 2), "1 2 3, 4 5 6");
         runs("a shorter result", x, 0, "");
         Check.due("has none of the one before", x.cell(1, 1), 0);
     }
@@ -498,7 +472,7 @@ public final class PromisesTest {
         BlindTables x = with(0, "1 0 0, 2 0 0, 3 0 0");
         x.plan(0);
         x.run();
-        Check.due("trace of the sort of three", trace(x), "R0 R2 W0 W2 R0 R1 W0 W1 R1 R2 W1 W2");
+        Check.due("trace of the sort of three", Texts.trace(x), "R0 R2 W0 W2 R0 R1 W0 W1 R1 R2 W1 W2");
         Check.due("access(0)", x.access(0), 0);
         Check.due("access(1)", x.access(1), 4);
         Check.due("access(11)", x.access(11), 5);
@@ -512,10 +486,10 @@ public final class PromisesTest {
 
     private static void promise17Sum() {
         BlindTables x = with(0, "1 2 3, 4 5 6");
-        fill(x, 1, "4 5 6, 1 2 3");
+        Texts.fill(x, 1, "4 5 6, 1 2 3");
         Check.due("sum", x.sum(0), 31 * (31 + 2) + 3 + 31 * (31 * 4 + 5) + 6);
         Check.due("the order counts nowhere", x.sum(1), x.sum(0));
-        fill(x, 2, "2147483647 -2147483648 2147483647, 2147483647 2147483647 1");
+        Texts.fill(x, 2, "2147483647 -2147483648 2147483647, 2147483647 2147483647 1");
         int first = 31 * (31 * MOST + LEAST) + MOST;
         int second = 31 * (31 * MOST + MOST) + 1;
         Check.due("wrapping", x.sum(2), first + second);
