@@ -33,12 +33,14 @@ public final class CallEdgesTest {
         groupNumberNotAsSaid();
         joinNumberNotAsSaid();
         pickGroupJoinEveryNumberAsSaid();
+        stepsShowNothingBeforeARun();
         runPlanStays();
         runWithoutSteps();
         runWithoutAPlan();
         runRoomNoResult();
         putSixAreThere();
         dropSixAreThere();
+        changesShowNothingBeforeApply();
         applyAnEmptyBatch();
         applyNoChangesAfterwards();
         applyRoom();
@@ -293,6 +295,21 @@ public final class CallEdgesTest {
         Check.due("distinct", Scene.after(plan).distinct(), true);
     }
 
+    /** 5 .. 9: "Puts a FILTER at the plan's end", and no more */
+    private static void stepsShowNothingBeforeARun() {
+        Calls[] steps = {
+            x -> x.filter(0, 0, 0), x -> x.pick(2, 2, 2), x -> x.distinct(), x -> x.group(1, 1), x -> x.join(0, 0, 0),
+        };
+        for (int s = 0; s < steps.length; s++) {
+            for (Calls scene : new Calls[] {Scene.BUSY, Scene.BEHIND_ROOM}) {
+                Check.due("what shows behind step " + s, Scene.answers(scene, steps[s]), Scene.answers(scene));
+                Calls apply = x -> x.apply(0);
+                String batch = Scene.answers(scene, apply);
+                Check.due("the batch behind step " + s, Scene.answers(scene, steps[s], apply), batch);
+            }
+        }
+    }
+
     /** 10: "Runs the plan, which stays" */
     private static void runPlanStays() {
         for (Calls scene : new Calls[] {Scene.BUSY, Scene.FULL, Scene.BEHIND_ROOM}) {
@@ -386,6 +403,18 @@ public final class CallEdgesTest {
             Scene.refused("a seventh change, a drop", x -> x.drop(1), six);
         }
         Scene.refused("a drop to a full batch", x -> x.drop(5), Scene.FULL);
+    }
+
+    /** Terms: "put together before it is run on a table" */
+    private static void changesShowNothingBeforeApply() {
+        Calls[] changes = {x -> x.put(1, 1, 1), x -> x.drop(7), x -> x.drop(1)};
+        for (int c = 0; c < changes.length; c++) {
+            for (Calls scene : new Calls[] {Scene.NEW, Scene.WITHOUT_PLAN, Scene.BUSY, Scene.BEHIND_ROOM}) {
+                Check.due("what shows behind change " + c, Scene.answers(scene, changes[c]), Scene.answers(scene));
+                String plan = Scene.answers(scene, RUN);
+                Check.due("the plan behind change " + c, Scene.answers(scene, changes[c], RUN), plan);
+            }
+        }
     }
 
     private static void changes(BlindTables x, int drops, int all) {

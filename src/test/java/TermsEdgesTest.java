@@ -16,6 +16,7 @@ public final class TermsEdgesTest {
         orderedByColumn0Then1Then2();
         atMostThreeSteps();
         eachStepOnWhatTheOneBeforeHasGiven();
+        noStepOnWhatAnEarlierRunHasLeft();
         filterLess();
         filterEqual();
         filterGreater();
@@ -28,6 +29,7 @@ public final class TermsEdgesTest {
         joinRowsAsTheyAreWhenRun();
         joinSumsWrap();
         joinOfNoRows();
+        joinOfRowsAtPlacesUsedBefore();
         joinAtMost24();
         joinEndsThePlanWithRoom();
         resultIsOrdered();
@@ -261,6 +263,69 @@ public final class TermsEdgesTest {
         }, 0, "");
     }
 
+    /** The same: rows that an earlier run has kept, or lost, are to the next one like all others. */
+    private static void noStepOnWhatAnEarlierRunHasLeft() {
+        for (int pattern = 0; pattern < 4096; pattern++) {
+            int first = pattern / 64;
+            int second = pattern % 64;
+            BlindTables x = new BlindTables();
+            for (int r = 0; r < 6; r++) {
+                x.add(0, r, first >> r & 1, second >> r & 1);
+            }
+            String what = "patterns " + first + " and " + second + ": ";
+            x.plan(0);
+            x.filter(1, 1, 1);
+            Check.due(what + "a filter", x.run(), Integer.bitCount(first));
+            Check.due(what + "its rows", firstColumn(x, Integer.bitCount(first)), bits(first));
+            x.plan(0);
+            x.filter(2, 1, 1);
+            Check.due(what + "another filter", x.run(), Integer.bitCount(second));
+            Check.due(what + "its rows", firstColumn(x, Integer.bitCount(second)), bits(second));
+            x.plan(0);
+            x.pick(1, 2, 2);
+            x.distinct();
+            int pairs = differentPairs(first, second);
+            Check.due(what + "a distinct", x.run(), pairs);
+            for (int r = 1; r < pairs; r++) {
+                boolean rises = 2 * x.cell(r, 0) + x.cell(r, 1) > 2 * x.cell(r - 1, 0) + x.cell(r - 1, 1);
+                Check.due(what + "its rows differ", rises, true);
+            }
+            for (int r = 0; r < 6; r++) {
+                if ((first >> r & 1) == 1) {
+                    x.drop(r);
+                }
+            }
+            Check.due(what + "a batch", x.apply(0), 6 - Integer.bitCount(first));
+            x.plan(0);
+            x.run();
+            Check.due(what + "its rows", firstColumn(x, 6 - Integer.bitCount(first)), bits(63 - first));
+        }
+    }
+
+    private static String firstColumn(BlindTables x, int rows) {
+        StringBuilder text = new StringBuilder();
+        for (int r = 0; r < rows; r++) {
+            text.append(x.cell(r, 0)).append(' ');
+        }
+        return text.toString();
+    }
+
+    private static String bits(int pattern) {
+        StringBuilder text = new StringBuilder();
+        for (int r = 0; r < 6; r++) {
+            text.append((pattern >> r & 1) == 1 ? r + " " : "");
+        }
+        return text.toString();
+    }
+
+    private static int differentPairs(int first, int second) {
+        int seen = 0;
+        for (int r = 0; r < 6; r++) {
+            seen |= 1 << 2 * (first >> r & 1) + (second >> r & 1);
+        }
+        return Integer.bitCount(seen);
+    }
+
     /** A filter of each column, of rows that have the edges there. */
     private static void filters(int op, int x, int... left) {
         for (int c = 0; c < 3; c++) {
@@ -327,6 +392,14 @@ public final class TermsEdgesTest {
             x.plan(0);
             x.distinct();
         }, 4, "0 0 0, 0 0 1, 0 1 0, 1 0 0");
+        for (int c = 0; c < 3; c++) {
+            String two = only(c, LEAST) + ", " + only(c, MOST);
+            gives("rows that differ in column " + c + " alone", x -> {
+                Texts.fill(x, 0, two + ", " + two);
+                x.plan(0);
+                x.distinct();
+            }, 2, two);
+        }
         for (int n = 1; n <= 12; n++) {
             int number = n;
             gives(n + " equal rows", x -> {
@@ -399,13 +472,15 @@ public final class TermsEdgesTest {
 
     /** "and their number" */
     private static void groupNumberOfRows() {
-        for (int n = 1; n <= 12; n++) {
-            int number = n;
-            gives(n + " rows of one value", x -> {
-                Texts.fill(x, 0, repeat("4 1 1", number));
-                x.plan(0);
-                x.group(0, 1);
-            }, 1, "4 " + n + " " + n);
+        for (int v : EDGES) {
+            for (int n = 1; n <= 12; n++) {
+                int number = n;
+                gives(n + " rows of the value " + v, x -> {
+                    Texts.fill(x, 0, repeat(v + " 1 1", number));
+                    x.plan(0);
+                    x.group(0, 1);
+                }, 1, v + " " + n + " " + n);
+            }
         }
         gives("24 rows of one value", x -> {
             Texts.fill(x, 0, repeat("4 1 1", 12));
@@ -518,6 +593,45 @@ public final class TermsEdgesTest {
                 }, 0, "");
             }
         }
+    }
+
+    /** "before each step its rows lie at 0 .. n - 1 (for JOIN those of table t behind them)", and no others */
+    private static void joinOfRowsAtPlacesUsedBefore() {
+        Calls tables = x -> {
+            for (int r = 0; r < 12; r++) {
+                x.add(0, r, r, r);
+            }
+            Texts.fill(x, 1, "1 0 0, 1 1 0, 1 2 0, 1 3 0");
+            Texts.fill(x, 2, "1 0 0, 1 4 0, 1 8 0, 1 12 0, 1 16 0, 1 20 0");
+        };
+        Calls[] earlier = {
+            x -> x.filter(0, 2, -1), x -> x.distinct(), x -> x.group(0, 0), x -> x.join(0, 0, 0), x -> x.join(1, 0, 0),
+        };
+        StringBuilder due = new StringBuilder("1 0 0");
+        for (int b = 1; b < 24; b++) {
+            due.append(", 1 ").append(b).append(" 0");
+        }
+        for (int e = 0; e < earlier.length; e++) {
+            Calls before = earlier[e];
+            gives("24 pairs behind earlier plan " + e, x -> {
+                tables.on(x);
+                x.plan(0);
+                before.on(x);
+                x.run();
+                x.apply(0);
+                x.plan(1);
+                x.join(2, 0, 0);
+            }, 24, due.toString());
+        }
+        gives("a smaller join behind it", x -> {
+            tables.on(x);
+            x.plan(2);
+            x.join(1, 0, 0);
+            x.run();
+            x.plan(1);
+            x.join(1, 0, 0);
+        }, 16, "1 0 0, 1 1 0, 1 1 0, 1 2 0, 1 2 0, 1 2 0, 1 3 0, 1 3 0, 1 3 0, 1 3 0,"
+            + " 1 4 0, 1 4 0, 1 4 0, 1 5 0, 1 5 0, 1 6 0");
     }
 
     /** Adds, for each pair of numbers, so many rows of one key to table 0, and so many to table 1. */

@@ -20,6 +20,7 @@ public final class TraceEdgesTest {
         joinOfOnePair();
         joinWithTheGreaterOfKAndM();
         joinOfAllNumbersOfRows();
+        joinOfTheMostRowsWithAllNumbersOfPairs();
         sortAtThePlansEnd();
         joinThatEndsWithRoom();
         batchThatEndsWithRoom();
@@ -348,6 +349,34 @@ public final class TraceEdgesTest {
             pairs += r % 6 == 5 ? 2 : 0;
         }
         return pairs;
+    }
+
+    /** n = 24 and u = 12, so that k = 36 and the places reach to 75; m = 0 .. 24 */
+    private static void joinOfTheMostRowsWithAllNumbersOfPairs() {
+        for (int m = 0; m <= 24; m++) {
+            DueTrace due = new DueTrace();
+            due.join(12, 12, 24);
+            due.join(24, 12, m);
+            due.sort(0, m);
+            Check.due("pairs of 24 rows with 12", Scene.after(mostRows(m)).run(), m);
+            traces("a join of 24 rows with 12 that has " + m, due, mostRows(m), RUN);
+            String places = m == 0 ? " R35 " : " R75 ";
+            Check.due("it reaches" + places, (Scene.trace(mostRows(m), RUN) + " ").contains(places), true);
+        }
+    }
+
+    /** Column 2 of the 24 rows that are joined first has 0 .. 9 twice each, and 50 once. */
+    private static Calls mostRows(int m) {
+        return x -> {
+            for (int r = 0; r < 12; r++) {
+                x.add(0, r / 2, r, r % 2);
+                x.add(1, r / 2, -r, r == 11 ? 50 : r / 2 * 2);
+                x.add(2, r, r, r < m / 2 ? r % 10 : r < (m + 1) / 2 ? 50 : 99);
+            }
+            x.plan(0);
+            x.join(1, 0, 0);
+            x.join(2, 2, 2);
+        };
     }
 
     /** "At the end of a plan: SORT of the result's number of rows." */
