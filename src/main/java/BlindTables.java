@@ -344,18 +344,25 @@ public final class BlindTables {
 
         Row read(int place) {
             note(2 * place);
-            return places[place];
+            return at(place);
         }
 
         void write(int place, Row row) {
             note(2 * place + 1);
-            places[place] = row;
+            if (place >= 0 && place < PLACES) {
+                places[place] = row;
+            }
+        }
+
+        /** The row at a place, without an access; no step asks for a place that is not there. */
+        private Row at(int place) {
+            return places[place >= 0 && place < PLACES ? place : 0];
         }
 
         /** R from, W to: the row at the place to becomes like the other, for no row lies twice. */
         void copy(int from, int to) {
             Row row = read(from);
-            Row twin = places[to];
+            Row twin = at(to);
             twin.become(row);
             write(to, twin);
         }
@@ -370,7 +377,7 @@ public final class BlindTables {
         /** Lays a step's rows at 0 and on, to be sorted by their columns; answers their number. */
         int lay(Bag bag) {
             for (int r = 0; r < bag.count; r++) {
-                Row row = places[r];
+                Row row = at(r);
                 row.setColumns(bag.first[r], bag.second[r], bag.third[r]);
                 row.sortBy(row.a, row.b, row.c);
             }
@@ -380,7 +387,7 @@ public final class BlindTables {
         /** Lays rows at a place and on, to be sorted by a column, then side; answers the next place. */
         int layByKey(Bag bag, int from, int column, int side) {
             for (int r = 0; r < bag.count; r++) {
-                Row row = places[from + r];
+                Row row = at(from + r);
                 row.setColumns(bag.first[r], bag.second[r], bag.third[r]);
                 row.key = row.column(column);
                 row.side = side;
@@ -399,21 +406,28 @@ public final class BlindTables {
         void takeAway(Bag bag, int number) {
             bag.clear();
             for (int p = 0; p < number; p++) {
-                bag.hold(places[p].a, places[p].b, places[p].c);
+                Row row = at(p);
+                bag.hold(row.a, row.b, row.c);
             }
+        }
+
+        /** The greatest power of two below n, or 1: the most that a network exchanges across. */
+        private static int widest(int n) {
+            int d = 1;
+            while (d < PLACES && 2 * d < n) {
+                d *= 2;
+            }
+            return d;
         }
 
         void sort(int base, int n) {
             if (n < 2) {
                 return;
             }
-            int half = 1;
-            while (2 * half < n) {
-                half *= 2;
-            }
-            for (int p = half; p > 0; p /= 2) {
+            int widest = widest(n);
+            for (int p = widest; p > 0; p /= 2) {
                 sortPass(base, n, p, 0, p);
-                for (int q = half; q > p; q /= 2) {
+                for (int q = widest; q > p; q /= 2) {
                     sortPass(base, n, p, p, q - p);
                 }
             }
@@ -434,7 +448,7 @@ public final class BlindTables {
 
         /** Brings the live rows, in their order, to the first places. */
         void squeeze(int base, int n) {
-            for (int d = 1; d < n; d *= 2) {
+            for (int d = 1; d < n && d < PLACES; d *= 2) {
                 for (int i = d; i < n; i++) {
                     int far = base + i;
                     Row front = read(far - d);
@@ -448,11 +462,7 @@ public final class BlindTables {
 
         /** Brings the live rows, squeezed before, forth to where their copies begin. */
         void spread(int base, int n) {
-            int greatest = 1;
-            while (2 * greatest < n) {
-                greatest *= 2;
-            }
-            for (int d = greatest; d > 0; d /= 2) {
+            for (int d = widest(n); d > 0; d /= 2) {
                 for (int i = n - 1; i >= d; i--) {
                     int far = base + i;
                     Row front = read(far - d);

@@ -74,12 +74,19 @@ public final class FaceTest {
     }
 
     private static void noStaticState() {
+        noStaticState(BlindTables.class);
         for (Class<?> inside : BlindTables.class.getDeclaredClasses()) {
             Check.due(inside + " is static", Modifier.isStatic(inside.getModifiers()), true);
-            for (Field f : inside.getDeclaredFields()) {
-                int m = f.getModifiers();
-                Check.due(f + " is changing static state", Modifier.isStatic(m) && !Modifier.isFinal(m), false);
-            }
+            Check.due(inside + " is public", Modifier.isPublic(inside.getModifiers()), false);
+            Check.due(inside + " is protected", Modifier.isProtected(inside.getModifiers()), false);
+            noStaticState(inside);
+        }
+    }
+
+    private static void noStaticState(Class<?> one) {
+        for (Field f : one.getDeclaredFields()) {
+            int m = f.getModifiers();
+            Check.due(f + " is changing static state", Modifier.isStatic(m) && !Modifier.isFinal(m), false);
         }
     }
 }
